@@ -10,6 +10,8 @@ public final class RandomRunsTest {
     private final SleepWork real = new SleepWork();
     private final PlainModel plain = new PlainModel();
     private final StringBuilder log = new StringBuilder();
+    // Asked again behind other calls: an answer that SleepWork keeps must not outlive a change.
+    private Runnable question = () -> { };
     private static int wrong = 0;
     private static long calls = 0;
     private static final int[] faultsSeen = new int[6];
@@ -274,7 +276,15 @@ public final class RandomRunsTest {
         return b ? 1 : 0;
     }
 
+    private void ask(Runnable what) {
+        question = what;
+        question.run();
+    }
+
     private void call() {
+        if (up(3) == 0) {
+            question.run();
+        }
         int men = plain.now.men.size();
         int tools = plain.now.tools.size();
         int rooms = plain.now.rooms;
@@ -337,19 +347,19 @@ public final class RandomRunsTest {
     }
 
     private void best(int man, int what) {
-        due("best " + man + " " + what, real.best(man, what), plain.best(man, what));
+        ask(() -> due("best " + man + " " + what, real.best(man, what), plain.best(man, what)));
     }
 
     private void bestOfTwo(int man, int other, int what) {
-        due("bestOfTwo " + man + " " + other + " " + what, real.bestOfTwo(man, other, what), plain.bestOfTwo(man, other, what));
+        ask(() -> due("bestOfTwo " + man + " " + other + " " + what, real.bestOfTwo(man, other, what), plain.bestOfTwo(man, other, what)));
     }
 
     private void hide(int tool, int what) {
-        due("hide " + tool + " " + what, real.hide(tool, what), plain.hide(tool, what));
+        ask(() -> due("hide " + tool + " " + what, real.hide(tool, what), plain.hide(tool, what)));
     }
 
     private void bars(int what) {
-        due("bars " + what, real.bars(what), plain.bars(what));
+        ask(() -> due("bars " + what, real.bars(what), plain.bars(what)));
     }
 
     private void where(int man, int minute) {
@@ -378,16 +388,16 @@ public final class RandomRunsTest {
     }
 
     private void fits(int man, int k, int i) {
-        due("fits " + man + " " + k + " " + i, real.fits(man, k, i), plain.fits(man, k, i));
+        ask(() -> due("fits " + man + " " + k + " " + i, real.fits(man, k, i), plain.fits(man, k, i)));
         due("fits " + man + " " + k + " -1", real.fits(man, k, -1), plain.fits(man, k, -1));
     }
 
     private void suspects(int k) {
-        due("suspects " + k, real.suspects(k), plain.suspects(k));
+        ask(() -> due("suspects " + k, real.suspects(k), plain.suspects(k)));
     }
 
     private void pairs(int man, int other, int k) {
-        due("pairs " + man + " " + other + " " + k, real.pairs(man, other, k), plain.pairs(man, other, k));
+        ask(() -> due("pairs " + man + " " + other + " " + k, real.pairs(man, other, k), plain.pairs(man, other, k)));
     }
 
     private void slot(int slot) {
