@@ -18,14 +18,6 @@ public final class TextsTest {
         Check.end();
     }
 
-    private static String many(String what, int times) {
-        StringBuilder all = new StringBuilder();
-        for (int i = 0; i < times; i++) {
-            all.append(what.replace('#', (char) ('c' + i)));
-        }
-        return all.toString();
-    }
-
     private static void tokens() {
         Check.house("");
         Check.house(" \t\r\n");
@@ -80,49 +72,49 @@ public final class TextsTest {
     }
 
     private static void space() {
-        Check.house(BASE + many("room #;", 6));
-        Check.fault(BASE + many("room #;", 7), 2, BEHIND + 42);
-        Check.house(BASE + many("door a b 1;", 12));
-        Check.fault(BASE + many("door a b 1;", 13), 2, BEHIND + 132);
-        Check.house(BASE + many("tool # a;", 5));
-        Check.fault(BASE + many("tool # a;", 6), 2, BEHIND + 45);
-        Check.house(BASE + many("task # a 1;", 5));
-        Check.fault(BASE + many("task # a 1;", 6), 2, BEHIND + 55);
-        Check.house(BASE + many("man # a;", 5));
-        Check.fault(BASE + many("man # a;", 6), 2, BEHIND + 40);
-        Check.house(BASE + many("law m=1;", 8));
-        Check.fault(BASE + many("law m=1;", 9), 2, BEHIND + 64);
-        Check.house(BASE + many("step t 1 1 1 1;", 5));
-        Check.fault(BASE + many("step t 1 1 1 1;", 6), 2, BEHIND + 75);
-        Check.fault(BASE + many("step t 1 1 1 1;", 5) + "step t", 2, BEHIND + 75);
-        Check.fault(BASE + many("step t 1 1 1 1;", 5) + "step t x", 2, BEHIND + 75);
-        Check.fault(BASE + many("step t 1 1 1 1;", 5) + "step", 1, BEHIND + 79);
-        Check.fault(BASE + many("step t 1 1 1 1;", 5) + "step 1", 1, BEHIND + 80);
-        Check.fault(BASE + many("step u 1 1 1 1;", 8), 4, BEHIND + 5);
-        Check.house(BASE + "law m=" + many("if 1<2 then 3 else ", 4) + "5;");
-        Check.fault(BASE + "law m=" + many("if 1<2 then 3 else ", 5) + "5;", 2, BEHIND + 6 + 4 * 19);
+        Check.house(BASE + Check.many("room #;", 6));
+        Check.fault(BASE + Check.many("room #;", 7), 2, BEHIND + 42);
+        Check.house(BASE + Check.many("door a b 1;", 12));
+        Check.fault(BASE + Check.many("door a b 1;", 13), 2, BEHIND + 132);
+        Check.house(BASE + Check.many("tool # a;", 5));
+        Check.fault(BASE + Check.many("tool # a;", 6), 2, BEHIND + 45);
+        Check.house(BASE + Check.many("task # a 1;", 5));
+        Check.fault(BASE + Check.many("task # a 1;", 6), 2, BEHIND + 55);
+        Check.house(BASE + Check.many("man # a;", 5));
+        Check.fault(BASE + Check.many("man # a;", 6), 2, BEHIND + 40);
+        Check.house(BASE + Check.many("law m=1;", 8));
+        Check.fault(BASE + Check.many("law m=1;", 9), 2, BEHIND + 64);
+        Check.house(BASE + Check.many("step t 1 1 1 1;", 5));
+        Check.fault(BASE + Check.many("step t 1 1 1 1;", 6), 2, BEHIND + 75);
+        Check.fault(BASE + Check.many("step t 1 1 1 1;", 5) + "step t", 2, BEHIND + 75);
+        Check.fault(BASE + Check.many("step t 1 1 1 1;", 5) + "step t x", 2, BEHIND + 75);
+        Check.fault(BASE + Check.many("step t 1 1 1 1;", 5) + "step", 1, BEHIND + 79);
+        Check.fault(BASE + Check.many("step t 1 1 1 1;", 5) + "step 1", 1, BEHIND + 80);
+        Check.fault(BASE + Check.many("step u 1 1 1 1;", 8), 4, BEHIND + 5);
+        Check.house(BASE + "law m=" + Check.many("if 1<2 then 3 else ", 4) + "5;");
+        Check.fault(BASE + "law m=" + Check.many("if 1<2 then 3 else ", 5) + "5;", 2, BEHIND + 6 + 4 * 19);
         Check.house(BASE + "law m=((((((1))))));");
         Check.house(BASE + "law m=((((((1))))))+(2)*((((((3))))));");
         Check.fault(BASE + "law m=(((((((1)))))));", 2, BEHIND + 12);
         Check.fault(BASE + "law m=1+(((((((1)))))));", 2, BEHIND + 14);
-        Check.house(many("night 1;", 133));
-        Check.fault(many("night 1;", 133) + "night", 1, 133 * 8 + 5);
-        Check.fault(many("night 1;", 133) + "night 1;", 2, 133 * 8 + 6);
+        Check.house(Check.many("night 1;", 133));
+        Check.fault(Check.many("night 1;", 133) + "night", 1, 133 * 8 + 5);
+        Check.fault(Check.many("night 1;", 133) + "night 1;", 2, 133 * 8 + 6);
     }
 
     private static void spaceAndSyntaxAtOnePlace() {
-        String full = many("night 1;", 133) + "night ";
+        String full = Check.many("night 1;", 133) + "night ";
         Check.fault(full + ";", 1, full.length());
         Check.fault(full + "?", 1, full.length());
         Check.fault(full + "1?", 2, full.length());
         Check.fault(full, 1, full.length());
         // 26 tokens stand in BASE, so here are 400 and no more: a whole text.
-        String even = BASE + "task u a 1;" + many("night 1;", 123);
+        String even = BASE + "task u a 1;" + Check.many("night 1;", 123);
         Check.house(even);
         Check.fault(even + "room", 2, even.length());
         Check.fault(even + "x", 1, even.length());
         // 399: the seventh step's fault lies at its word, though its task is the first token too many.
-        String odd = BASE + many("step t 1 1 1 1;", 5) + "task u a 1;" + many("night 1;", 111);
+        String odd = BASE + Check.many("step t 1 1 1 1;", 5) + "task u a 1;" + Check.many("night 1;", 111);
         Check.fault(odd + "step t 1 1 1 1;", 2, odd.length());
         Check.fault(odd + "step u 1 1 1 1;", 2, odd.length() + 5);
         Check.fault(odd + "step 1", 1, odd.length() + 5);
@@ -176,18 +168,18 @@ public final class TextsTest {
 
     private static void order() {
         Check.fault("door x y 0; room a; room a; ?", 1, 28);
-        Check.fault("door x y 0; " + many("room #;", 9), 2, 12 + 56);
+        Check.fault("door x y 0; " + Check.many("room #;", 9), 2, 12 + 56);
         Check.fault("door x y 0; room a; room a;", 4, 5);
         Check.fault("night 0; room a; room a;", 5, 6);
         Check.fault(BASE + "step u 0 1 1 1 with z undoes 5;", 4, BEHIND + 5);
         Check.fault(BASE + "step t 0 1 1 1 with z undoes 5;", 5, BEHIND + 7);
         Check.fault(BASE + "step t 1 1 1 1 with z undoes 5;", 4, BEHIND + 20);
-        Check.fault(many("room #;", 9) + "?", 2, 56);
+        Check.fault(Check.many("room #;", 9) + "?", 2, 56);
     }
 
     /** A law's answer shows in which step is done: one minute each, 6 steps. */
     private static int chosen(String law) {
-        String steps = many("step t 1 99 1 1;", 6);
+        String steps = Check.many("step t 1 99 1 1;", 6);
         SleepWork x = Check.house("room a; task t a 50;" + steps + "man m a left t 2; law m = 5; law m = " + law + "; night 1;");
         x.night();
         return x.man(0, 2);
