@@ -34,6 +34,7 @@ public final class EdgeCallsTest {
         restoreRefused();
         count();
         refusedCallsChangeNothing();
+        refusedInAFullHouse();
         lastCall();
         Check.end();
     }
@@ -472,6 +473,55 @@ public final class EdgeCallsTest {
         Check.refused("back", LIVED, y -> y.back(21), -1);
         Check.refused("back", LIVED, y -> y.back(-1), -1);
         Check.refused("back of none", LIVED, y -> y.back(0), 20);
+    }
+
+    /** Where a text has as much as it may, one more is no such one either. */
+    private static void refusedInAFullHouse() {
+        Check.says("false: no such ones.");
+        StringBuilder text = new StringBuilder(Check.many("room #;", 8) + Check.many("door c d 1;", 12) + Check.many("tool o# c;", 6)
+            + Check.many("task t# c 1;", 6) + Check.many("step th 1 9 1 0;", 6) + Check.many("man m# c;", 6));
+        SleepWork x = Check.house(text.toString());
+        Check.due("the last of all", x.leave(5, 5, 5), true);
+        Check.due("the last of all", x.work(5, 5), true);
+        Check.due("the last of all", x.lay(5, 7), true);
+        Check.due("the last of all", x.give(5, 5), true);
+        Check.due("the last of all", x.bar(11, true), true);
+        Check.due("the last of all", x.tell(5, 5, 1), 0);
+        Check.due("the last of all", x.step(5, 5, 0), 1);
+        Check.due("the last of all", x.way(7, 7), 0);
+        Check.due("the last of all", x.where(5, 480), 0);
+        Check.due("the last of all, its stuff being gone", x.fits(5, 1, -1), 7);
+        for (int beyond = 6; beyond <= 8; beyond++) {
+            Check.due("task", x.task(beyond, 0), -1);
+            Check.due("step", x.step(5, beyond, 0), -1);
+            Check.due("step of no task", x.step(beyond, 0, 0), -1);
+            Check.due("man", x.man(beyond, 0), -1);
+            Check.due("tool", x.tool(beyond), -1);
+            Check.due("leave of nobody", x.leave(beyond, 5, 5), false);
+            Check.due("leave of no task", x.leave(5, beyond, 0), false);
+            Check.due("leave of no step", x.leave(5, 5, beyond), false);
+            Check.due("work", x.work(beyond, 0), false);
+            Check.due("work", x.work(5, beyond), false);
+            Check.due("lay", x.lay(beyond, 0), false);
+            Check.due("lay", x.lay(0, beyond + 2), false);
+            Check.due("give", x.give(beyond, 0), false);
+            Check.due("give", x.give(0, beyond), false);
+            Check.due("bar", x.bar(beyond + 6, true), false);
+            Check.due("tell", x.tell(beyond, 0, 0), -1);
+            Check.due("tell", x.tell(5, beyond, 0), -1);
+            Check.due("way", x.way(beyond + 2, 0), -1);
+            Check.due("way", x.way(0, beyond + 2), -1);
+            Check.due("best", x.best(beyond, 0), -1);
+            Check.due("bestOfTwo", x.bestOfTwo(beyond, 0, 0), -1);
+            Check.due("bestOfTwo", x.bestOfTwo(0, beyond, 0), -1);
+            Check.due("hire", x.hire(beyond), -1000000);
+            Check.due("hide", x.hide(beyond, 0), -1);
+            Check.due("where", x.where(beyond, 0), -1);
+            Check.due("strokes", x.strokes(beyond, 0), -1);
+            Check.due("fits", x.fits(beyond, 0, -1), -1);
+            Check.due("pairs", x.pairs(beyond, 0, 0), -1);
+            Check.due("pairs", x.pairs(0, beyond, 0), -1);
+        }
     }
 
     private static void lastCall() {

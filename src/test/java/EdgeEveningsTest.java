@@ -23,6 +23,7 @@ public final class EdgeEveningsTest {
         hideAtTheEnd();
         hideRefused();
         barsOfAlike();
+        barsForSeveralMen();
         barsAllAndNone();
         barsRefused();
         where();
@@ -272,6 +273,28 @@ public final class EdgeEveningsTest {
         Check.due("the others open", x.bars(0), 8);
         Check.due("none", x.bars(1), 0);
         Check.due("nothing happens", x.count(7), 1);
+    }
+
+    /** Each man has two doors, one that lets him in a minute too soon and one just right. */
+    private static void barsForSeveralMen() {
+        Check.says("BAR: of all sets of DOORS to be shut (the others open) that with the most GAIN");
+        for (int right = 2; right <= 9; right++) {
+            String task = "1 2 9 1;step # 1 1 0 0;";
+            String text = "room a;room b;room c;room d;room e;task t b 99;step t " + task.replace('#', 't') + "task u c 99;step u " + task.replace('#', 'u')
+                + "task v d 99;step v " + task.replace('#', 'v') + "man m a left t 0;man n a left u 0;man k a left v 0;man l a;night " + (right + 2)
+                + ";door a b " + (right - 1) + ";door a b " + right + ";door a c " + (right - 1) + ";door a c " + right + ";";
+            SleepWork x = Check.house(text);
+            Check.due("gain", x.bars(0), 36);
+            Check.due("the soon ones of both", x.bars(1), 5);
+            x = Check.house(text + "door a d " + (right - 1) + ";door a d " + right + ";");
+            Check.due("gain", x.bars(0), 54);
+            Check.due("the soon ones of three", x.bars(1), 21);
+            x.leave(0, -1, -1);
+            x.leave(3, 0, 0);
+            Check.due("the last man instead of the first", x.bars(1), 21);
+            x.leave(3, -1, -1);
+            Check.due("of two", x.bars(1), 20);
+        }
     }
 
     private static void barsAllAndNone() {

@@ -34,6 +34,9 @@ public final class EdgeFaultsTest {
         namesAndNumbersByPlace();
         faultChangesNothing();
         inPlaceOfTheOneAhead();
+        asOnANewObject();
+        waysAnew();
+        lawsHaveSpaceAnew();
         Check.end();
     }
 
@@ -177,7 +180,10 @@ public final class EdgeFaultsTest {
         Check.faultAtMark(law + "((((((@(", 2);
         Check.faultAtMark(law + "((((((1+@(2)))))));", 2);
         Check.faultAtMark(law + "((((((1*2)))*(((3-@(4)))))));", 2);
+        Check.faultAtMark(law + "if ((((((@(1)))))))<1 then 2 else 3;", 2);
         Check.faultAtMark(law + "if 1<((((((@(1))))))) then 2 else 3;", 2);
+        Check.faultAtMark(law + "if 1<2 then ((((((@(1))))))) else 3;", 2);
+        Check.faultAtMark(law + "if 1<2 then 3 else ((((((@(1)))))));", 2);
         Check.faultAtMark(law + "((((((1 @(", 1);
         Check.faultAtMark(law + "((((((1))))))@)", 1);
     }
@@ -495,5 +501,72 @@ public final class EdgeFaultsTest {
         Check.due("no k", x.suspects(1), -1);
         Check.due("forget", x.forget(), 0);
         Check.due("the first told", x.tell(0, 0, 0), 0);
+    }
+
+    private static String fullText() {
+        StringBuilder text = new StringBuilder(Check.many("room #;", 8) + Check.many("tool o# d;", 6));
+        for (int i = 0; i < 12; i++) {
+            text.append("door ").append((char) ('c' + i % 8)).append(' ').append((char) ('c' + (i + 1) % 8)).append(' ').append(i + 1)
+                .append(i % 3 == 0 ? " shut;" : ";");
+        }
+        for (int i = 0; i < 6; i++) {
+            char name = (char) ('c' + i);
+            text.append("task t").append(name).append(' ').append(name).append(' ').append(90 + i).append(";step t").append(name).append(" 2 9 3 1;");
+        }
+        for (int i = 0; i < 6; i++) {
+            char name = (char) ('c' + i);
+            text.append("man m").append(name).append(' ').append(name).append(" left t").append(name).append(" 0;");
+        }
+        return text + "step tc 1 9 9 9;step tc 1 9 9 9 undoes 1;" + Check.many("law mc=last+1;", 8) + "night 77;";
+    }
+
+    /** Whatever was read ahead of a text, it is as if a new object had read it. */
+    private static void asOnANewObject() {
+        Check.says("else it is in place of the one ahead");
+        String[] texts = {fullText(), "", "room a;room b;door a b 7;door a b 9 shut;tool o a;task t b 9;step t 1 2 3 4;man m a left t 0;night 20;",
+            "room a;room b;door a b 5;task u a 3;task t b 9;step t 1 9 3 4;step t 2 2 3 4;man m a;man n a left t 0;" + Check.many("law n=1;", 8),
+            "room a;room a;", "room a;night 0;", "room a;room b;door a b 3;?", Check.many("law z=1;", 8), "room a;room b;" + Check.many("door a b 4 shut;", 13)};
+        int[] faults = {0, 0, 0, 0, 3, 5, 1, 4, 2};
+        for (int first = 0; first < texts.length; first++) {
+            for (int second = 0; second < texts.length; second++) {
+                for (int third = 0; third < 4; third++) {
+                    SleepWork x = new SleepWork();
+                    int[] order = {first, second, third};
+                    for (int i : order) {
+                        x.gain();
+                        x.way(0, 1);
+                        Check.feed(x, texts[i]);
+                        Check.due("read", x.read(), faults[i]);
+                    }
+                    List<Integer> got = Check.portrait(x);
+                    List<Integer> due = Check.portrait(Check.house(texts[third]));
+                    Check.due("text " + third + " behind " + first + " and " + second + ": " + got + " is " + due, got.equals(due), true);
+                }
+            }
+        }
+    }
+
+    private static void waysAnew() {
+        Check.says("else it is in place of the one ahead");
+        SleepWork x = new SleepWork();
+        // The doors that are shut are the same each time, the minutes and the rooms are not.
+        String[] doors = {"door a b 7;", "door a b 5;", "", "door b c 5;", "door a c 2;door c b 1;"};
+        int[] due = {7, 5, -2, -2, 3};
+        for (int i = 0; i < doors.length; i++) {
+            Check.feed(x, "room a;room b;room c;" + doors[i] + "task t b 99;step t 1 99 1 0;man m a left t 0;night 9;");
+            Check.due("read", x.read(), 0);
+            Check.due("way by " + doors[i], x.way(0, 1), due[i]);
+            Check.due("gain by " + doors[i], x.gain(), due[i] < 0 ? 0 : 9 - due[i]);
+        }
+    }
+
+    private static void lawsHaveSpaceAnew() {
+        Check.says("else it is in place of the one ahead");
+        SleepWork x = new SleepWork();
+        for (int i = 0; i < 8; i++) {
+            Check.feed(x, "room a;task t a 9;step t 1 9 1 0;step t 1 9 5 0;man m a left t 0;law m=1" + "+0".repeat(150) + ";night 1;");
+            Check.due("read", x.read(), 0);
+            Check.due("the law is there", x.gain(), 5);
+        }
     }
 }

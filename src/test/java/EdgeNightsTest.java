@@ -46,6 +46,15 @@ public final class EdgeNightsTest {
         Check.due("98 of 99", x.task(0, 4), 0);
         x.work(0, 0);
         Check.due("99 of 99", x.task(0, 4), 1);
+        // Six steps, and the steps of the tasks about it are not done.
+        x = Check.house("room a;task s a 9;step s 1 1 1 1;task t a 9;task u a 9;" + Check.many("step t 1 1 1 1;", 6) + Check.many("step u 1 1 1 1;", 6));
+        for (int step = 0; step < 6; step++) {
+            Check.due("not yet", x.task(1, 4), 0);
+            x.work(1, step);
+        }
+        Check.due("each of six", x.task(1, 4), 1);
+        Check.due("not the one ahead", x.task(0, 4), 0);
+        Check.due("not the one behind", x.task(2, 4), 0);
     }
 
     private static void worth() {
@@ -82,6 +91,12 @@ public final class EdgeNightsTest {
         Check.due("seven minutes", x.gain(), 2);
         x.bar(2, true);
         Check.due("no way", x.gain(), 0);
+        x = Check.house("room a;room b;room c;room d;door b a 3;door a c 4;door c d 1 shut;door d b 1;task t c 99;step t 1 99 1 0;man m b left t 0;night 9;");
+        Check.due("over the first room", x.way(1, 2), 7);
+        Check.due("over the first room", x.gain(), 2);
+        x.bar(2, false);
+        Check.due("over the last room", x.way(1, 2), 2);
+        Check.due("over the last room", x.gain(), 7);
         x = Check.house(text + "man n c left t 0;");
         Check.due("at home: at minute 0", x.strokes(1, 1), 1);
         Check.due("not yet", x.strokes(1, 0), 0);
@@ -298,6 +313,26 @@ public final class EdgeNightsTest {
             Check.due("done", x.step(0, 0, 0), Math.max(0, done - 2));
             Check.due("and it is done itself", x.step(0, 1, 0), 2);
         }
+        // Each step of the second task that can be undone, by night and by day.
+        for (int step = 0; step < 5; step++) {
+            SleepWork x = Check.house("room a;task s a 9;" + Check.many("step s 1 9 0 0;", 6) + "task t a 99;" + Check.many("step t 1 9 1 0;", 5)
+                + "step t 1 9 0 0 undoes " + step + ";man m a left t 5;night 1;");
+            for (int i = 0; i < 6; i++) {
+                x.work(0, i);
+                x.work(1, i);
+                x.work(1, Math.min(i, 4));
+                x.work(1, Math.min(i, 4));
+            }
+            int[] ahead = new int[12];
+            for (int i = 0; i < 12; i++) {
+                ahead[i] = x.step(i / 6, i % 6, 0);
+            }
+            x.night();
+            x.work(1, 5);
+            for (int i = 0; i < 12; i++) {
+                Check.due("undoes " + step + " alone", x.step(i / 6, i % 6, 0), ahead[i] + (i == 11 ? 2 : i == 6 + step ? -2 : 0));
+            }
+        }
     }
 
     private static void notOver() {
@@ -379,6 +414,18 @@ public final class EdgeNightsTest {
         x.night();
         Check.due("down at 0", x.man(0, 5), 0);
         Check.due("left", x.man(0, 2), 2);
+        // That he saw the end of a task one night is nothing to the next one.
+        x = Check.house("room a;task t a 9;task u a 9;step t 1 1 1 0;step u 1 9 1 0;man m a left t 0;night 3;");
+        x.night();
+        Check.due("ended", x.man(0, 1), -2);
+        x.leave(0, 1, 0);
+        x.night();
+        Check.due("not ended", x.man(0, 1), 1);
+        x.leave(0, 0, 0);
+        Check.due("ended, as it would be", x.gain(), 0);
+        x.leave(0, 1, 0);
+        x.night();
+        Check.due("not ended", x.man(0, 1), 1);
         // Ended and without stuff: ended comes first.
         x = Check.house("room a;task t a 1;step t 1 1 1 0;man m a left t 0;night 9;");
         x.night();

@@ -51,6 +51,17 @@ public final class EdgeTokensTest {
         Check.fault("room a ", 1, 7);
         Check.fault("room a\t\n\r ", 1, 10);
         Check.fault("?", 1, 0);
+        Check.fault(padded("room a;", 2000, "night 1"), 1, 2000);
+        // What went back is no more part of it, whatever it was.
+        String[] texts = {"night 1", "room a", "room a;room", "room a ", "night "};
+        String[] gone = {"1;", "b;", "s;", "  ;", "9;"};
+        for (int i = 0; i < texts.length; i++) {
+            SleepWork x = new SleepWork();
+            Check.feed(x, texts[i] + gone[i]);
+            x.back(gone[i].length());
+            Check.due("read", x.read(), 1);
+            Check.due("the end of " + texts[i], x.place(), texts[i].length());
+        }
     }
 
     private static void orderOfBytes() {
