@@ -29,6 +29,7 @@ public final class EdgeCallsTest {
         night();
         undo();
         undoHands();
+        undoKeeps();
         hold();
         restore();
         restoreRefused();
@@ -365,6 +366,26 @@ public final class EdgeCallsTest {
         x.lay(0, 0);
         Check.due("undo", x.undo(), true);
         Check.due("what was done by hand ahead of the night stands: " + evening, evening.equals(Check.portrait(x)), true);
+    }
+
+    /** What is told, what slots hold and the tape are neither nights nor work by hand. */
+    private static void undoKeeps() {
+        Check.says("The last NIGHT is undone, with all that was done by hand since");
+        SleepWork x = Check.house(SMALL);
+        x.night();
+        x.tell(0, 0, 4);
+        x.hold(1);
+        x.feed(0, 0, 0, 0, 0);
+        Check.due("undo", x.undo(), true);
+        Check.due("what is told stays", x.count(11), 1);
+        Check.due("what is told is so", x.fits(0, 1, 0), 0);
+        Check.due("the tape stays", x.count(9), 20);
+        Check.due("a slot is held", x.count(12), 1);
+        Check.due("nights", x.count(6), 0);
+        Check.due("what it holds stays", x.restore(1), true);
+        Check.due("nights", x.count(6), 1);
+        Check.due("the tape stays", x.count(9), 20);
+        Check.due("what is told stays", x.count(11), 1);
     }
 
     private static void hold() {

@@ -15,6 +15,7 @@ public final class EdgeEveningsTest {
         gainBelowNought();
         bestOfAlike();
         bestAtTheEnd();
+        allElseAsItIs();
         bestRefused();
         bestForTwoOfAlike();
         bestForTwoRefused();
@@ -24,6 +25,7 @@ public final class EdgeEveningsTest {
         hideRefused();
         barsOfAlike();
         barsForSeveralMen();
+        barsForSixMen();
         barsAllAndNone();
         barsRefused();
         where();
@@ -31,8 +33,10 @@ public final class EdgeEveningsTest {
         tell();
         known();
         fits();
+        fitsFromNow();
         suspects();
         pairs();
+        pairsTogether();
         Check.end();
     }
 
@@ -114,6 +118,28 @@ public final class EdgeEveningsTest {
                 twoDue(x, 0, 1, 17, 0, Math.max(1, 10 * task + step));
             }
         }
+    }
+
+    /** What is best for one hangs on what the others left, on stuff, tools and doors as they are. */
+    private static void allElseAsItIs() {
+        Check.says("BEST for a MAN: of all he may LEAVE (nothing; else a TASK, a STEP), all else as it is");
+        SleepWork x = Check.house("room a;room b;door a b 1;tool o b;task t b 3;step t 1 2 9 9 with o;step t 1 2 5 5;man m a;man n a;night 3;");
+        Check.due("twice 0", x.best(0, 1) * 100 + x.best(0, 0), 18);
+        x.leave(1, 0, 0);
+        Check.due("n does 0 once, then m has taken the last stuff", x.best(0, 1) * 100 + x.best(0, 0), 100 + 9 + 10);
+        x.lay(0, 0);
+        Check.due("the tool is not there for either", x.best(0, 1) * 100 + x.best(0, 0), 100 + 10);
+        x.give(0, 0);
+        Check.due("m has it", x.best(0, 1) * 100 + x.best(0, 0), 18);
+        x.work(0, 0);
+        Check.due("0 was done by day", x.best(0, 1) * 100 + x.best(0, 0), 100 + 10);
+        x.bar(0, true);
+        Check.due("no way", x.best(0, 1) * 100 + x.best(0, 0), -200);
+        x.bar(0, false);
+        x.work(0, 1);
+        x.work(0, 1);
+        Check.due("no stuff", x.best(0, 1) * 100 + x.best(0, 0), -200);
+        Check.due("what he left does not count", x.leave(0, 0, 1) ? x.best(0, 1) : 0, -2);
     }
 
     private static void bestRefused() {
@@ -297,6 +323,28 @@ public final class EdgeEveningsTest {
         }
     }
 
+    /** As many men and doors as there may be: each man's first door lets him in too soon. */
+    private static void barsForSixMen() {
+        Check.says("BAR: of all sets of DOORS to be shut (the others open) that with the most GAIN");
+        for (int right : new int[] {2, 31, 60}) {
+            StringBuilder text = new StringBuilder("room a;" + Check.many("room #;", 6) + "night " + (right + 2) + ";");
+            for (char name = 'c'; name <= 'h'; name++) {
+                text.append(("task t# # 9;step t# 1 2 9 1;step t# 1 1 0 0;man m# a left t# 0;door a # " + (right - 1) + ";door a # " + right + ";")
+                    .replace('#', name));
+            }
+            SleepWork x = Check.house(text.toString());
+            Check.due("gain as it is", x.gain(), 6 * 17);
+            Check.due("gain", x.bars(0), 6 * 18);
+            Check.due("the first door of each", x.bars(1), 1365);
+            for (int man = 0; man < 6; man++) {
+                x.leave(man, -1, -1);
+                Check.due("gain without him", x.bars(0), 5 * 18);
+                Check.due("his doors stay open", x.bars(1), 1365 & ~(1 << 2 * man));
+                x.leave(man, man, 0);
+            }
+        }
+    }
+
     private static void barsAllAndNone() {
         Check.says("what 0 GAIN, 1 the DOORS (bits)");
         String spoil = "room a;room b;task t b 99;step t 1 0 0 1;step t 1 1 0 0;man m a left t 0;night 9;";
@@ -457,6 +505,31 @@ public final class EdgeEveningsTest {
         Check.due("not so many", x.fits(0, 0, 1), -1);
     }
 
+    private static void fitsFromNow() {
+        Check.says("A MAN FITS what he may have LEFT (nothing; a TASK, a STEP) if behind a NIGHT from now, all else as it is, all that is KNOWN is so.");
+        SleepWork x = Check.house("room a;room b;door a b 1;task t b 9;step t 1 9 1 0;step t 1 9 1 0;man m a;man n b;night 2;");
+        x.tell(0, 0, 1);
+        x.tell(0, 1, 0);
+        Check.due("m was there for a minute", x.fits(0, 2, -1) * 100 + x.fits(0, 2, 0), 100);
+        Check.due("n would have done two", x.fits(1, 2, -1), 0);
+        x.work(0, 0);
+        Check.due("it is done by now: nothing", x.fits(0, 2, -1) * 100 + x.fits(0, 2, 0), 100 - 2);
+        Check.due("it is done by now: nothing", x.fits(1, 2, -1) * 100 + x.fits(1, 2, 0), 100 - 2);
+        x.leave(1, 0, 1);
+        Check.due("n does the other step, whatever m left", x.fits(0, 2, -1), 0);
+        Check.due("n himself", x.fits(1, 2, -1) * 100 + x.fits(1, 2, 0), 100 - 2);
+        x.forget();
+        // One known thing that is not so is enough, wherever it stands among thirty.
+        x.leave(1, -1, -1);
+        for (int i = 0; i < 30; i++) {
+            x.tell(0, i % 2, i == 29 ? 7 : 1 - i % 2);
+        }
+        Check.due("twenty-nine that are so", x.fits(0, 29, -1), 1);
+        Check.due("the last one is not", x.fits(0, 30, -1), 0);
+        Check.due("a night gone by counts for nothing", x.night(), 0);
+        Check.due("twenty-nine that are so", x.fits(0, 29, 0), -2);
+    }
+
     private static void suspects() {
         Check.says("SUSPECTS: MEN who FIT something that is not what they LEFT as it stands");
         SleepWork x = Check.house("room a;task t a 9;step t 1 9 1 0;" + Check.many("man # a left t 0;", 6) + "night 1;");
@@ -507,5 +580,35 @@ public final class EdgeEveningsTest {
             Check.due("the same", x.pairs(man, man, 0), -1);
         }
         Check.due("without tasks", Check.house("room a;man m a;man n a;").pairs(0, 1, 0), 1);
+    }
+
+    private static void pairsTogether() {
+        Check.says("two MEN FIT likewise together");
+        // Only together they do both steps of one night; a third is as he left it.
+        SleepWork x = Check.house("room a;task t a 9;step t 1 9 1 0;step t 1 9 1 0;man m a;man n a;man k a left t 1;night 1;");
+        x.tell(0, 0, 1);
+        x.tell(0, 1, 2);
+        Check.due("m alone", x.fits(0, 2, -1), 0);
+        Check.due("n alone", x.fits(1, 2, -1), 0);
+        Check.due("one this, one that", x.pairs(0, 1, 2), 2);
+        Check.due("whoever is named first", x.pairs(1, 0, 2), 2);
+        Check.due("nobody is suspect alone", x.suspects(2), 0);
+        Check.due("with k: three must do it", x.pairs(0, 2, 2), 0);
+        x.leave(1, 0, 0);
+        Check.due("n as he left it: m and k do 1", x.pairs(0, 2, 2), 1);
+        Check.due("what the two left does not count", x.pairs(0, 1, 2), 2);
+        // As many as there can be: 37 times 37.
+        StringBuilder text = new StringBuilder("room a;");
+        for (char task = 'c'; task <= 'h'; task++) {
+            text.append("task ").append(task).append(" a 1;").append(Check.many("step " + task + " 1 1 1 0;", 6));
+        }
+        x = Check.house(text + "man m a;man n a;night 1;");
+        Check.due("all", x.pairs(0, 1, 0), 37 * 37);
+        Check.due("all of one", x.fits(1, 0, -1), 37);
+        Check.due("the last of all", x.fits(1, 0, 36), 55);
+        Check.due("not so many", x.fits(1, 0, 37), -1);
+        x.tell(5, 5, 1);
+        // Stuff for one: m has the last step, or n has it and m nothing of that task.
+        Check.due("one of them did the last", x.pairs(0, 1, 1), 37 + 31);
     }
 }

@@ -5,6 +5,7 @@ public final class EdgeNightsTest {
     public static void main(String[] args) {
         ended();
         worth();
+        getsUp();
         waysThere();
         noWay();
         heldToSteps();
@@ -77,6 +78,30 @@ public final class EdgeNightsTest {
         Check.due("999 in all", x.night(), 99 * 99 - 900 * 99);
         Check.due("done", x.step(0, 0, 0), 999);
         Check.due("stuff", x.task(0, 2), 0);
+    }
+
+    private static void getsUp() {
+        Check.says("each MAN who LEFT something gets up at minute 0");
+        String text = "room a;room b;door a b 1;task t a 99;step t 1 99 1 0;man m a left t 0;man n a;man k b left t 0;night ";
+        SleepWork x = Check.house(text + "1;");
+        Check.due("all that can be in one minute", x.night(), 1);
+        Check.due("the first", x.man(0, 3), 1);
+        Check.due("who left nothing", x.man(1, 3), 0);
+        Check.due("he did not get up, so he did not lie down", x.man(1, 5), -2);
+        Check.due("on his way", x.man(2, 3), 0);
+        Check.due("on his way he does not lie down", x.man(2, 5), -2);
+        x = Check.house(text + "2;");
+        Check.due("both of them", x.night(), 2 + 1);
+        // Six men, each of whom left something else, all get up.
+        StringBuilder six = new StringBuilder("room a;task t a 99;" + Check.many("step t 1 99 1 0;", 6));
+        for (int man = 0; man < 6; man++) {
+            six.append("man ").append((char) ('c' + man)).append(" a left t ").append(5 - man).append(";");
+        }
+        x = Check.house(six + "night 1;");
+        Check.due("six of them", x.night(), 6);
+        for (int man = 0; man < 6; man++) {
+            Check.due("each his own", x.step(0, man, 0) * 10 + x.man(man, 2), 10 + 5 - man);
+        }
     }
 
     private static void waysThere() {
@@ -198,6 +223,7 @@ public final class EdgeNightsTest {
     }
 
     private static void toolThere() {
+        Check.says("or its TOOL is not there");
         Check.says("A TOOL is there if it lies in that ROOM, or the MAN has it.");
         String text = "room a;room b;door a b 1;tool o a;task t b 9;step t 1 9 1 0 with o;man m a left t 0;man n b;night 4;";
         SleepWork x = Check.house(text);
@@ -302,7 +328,7 @@ public final class EdgeNightsTest {
     }
 
     private static void undoesIfDone() {
-        Check.says("and that which it undoes once less (if it was done at all)");
+        Check.says("when it is over, the STEP is done once more, and that which it undoes once less (if it was done at all)");
         String text = "room a;task t a 99;step t 1 9 5 0;step t 1 9 0 0 undoes 0;man m a left t 1;night ";
         for (int done = 0; done <= 3; done++) {
             SleepWork x = Check.house(text + "2;");

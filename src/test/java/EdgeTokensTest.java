@@ -25,6 +25,7 @@ public final class EdgeTokensTest {
         digits();
         signs();
         everyPieceOfAText();
+        everyNextToken();
         noTells();
         optionalParts();
         Check.end();
@@ -301,6 +302,60 @@ public final class EdgeTokensTest {
                 Check.fault(text + "1", 1, text.length());
             } else {
                 Check.fault(text, 1, text.length());
+            }
+        }
+    }
+
+    /** Behind each beginning of a text: the tokens with which texts go on, n being a name and 1 a number; all others are wrong. */
+    private static void everyNextToken() {
+        Check.says("1 SYNTAX: a TOKEN, or what is none, with which no text goes on.");
+        String tells = "room door tool task step man law night";
+        String units = "1 ( last done steps minute stuff times";
+        String[][] table = {
+            {"", tells}, {"room", "n"}, {"room a", ";"}, {"room a ;", tells},
+            {"door", "n"}, {"door a", "n"}, {"door a b", "1"}, {"door a b 1", "shut ;"}, {"door a b 1 shut", ";"}, {"door a b 1 ;", tells},
+            {"door a b 1 shut ;", tells}, {"tool", "n"}, {"tool o", "n"}, {"tool o a", ";"}, {"tool o a ;", tells},
+            {"task", "n"}, {"task t", "n"}, {"task t a", "1"}, {"task t a 1", ";"}, {"task t a 1 ;", tells},
+            {"step", "n"}, {"step t", "1"}, {"step t 1", "1"}, {"step t 1 2", "1"}, {"step t 1 2 3", "1"}, {"step t 1 2 3 4", "with undoes ;"},
+            {"step t 1 2 3 4 ;", tells}, {"step t 1 2 3 4 with", "n"}, {"step t 1 2 3 4 with o", "undoes ;"}, {"step t 1 2 3 4 with o ;", tells},
+            {"step t 1 2 3 4 undoes", "1"}, {"step t 1 2 3 4 undoes 0", ";"}, {"step t 1 2 3 4 undoes 0 ;", tells},
+            {"step t 1 2 3 4 with o undoes", "1"}, {"step t 1 2 3 4 with o undoes 0", ";"}, {"step t 1 2 3 4 with o undoes 0 ;", tells},
+            {"man", "n"}, {"man m", "n"}, {"man m a", "left ;"}, {"man m a ;", tells}, {"man m a left", "n"}, {"man m a left t", "1"},
+            {"man m a left t 0", ";"}, {"man m a left t 0 ;", tells}, {"night", "1"}, {"night 1", ";"}, {"night 1 ;", tells},
+            {"law", "n"}, {"law m", "="}, {"law m =", "if " + units}, {"law m = 1", "+ - * / ;"}, {"law m = 1 ;", tells},
+            {"law m = (", units}, {"law m = ( 1", "+ - * / )"}, {"law m = ( ( 1 )", "+ - * / )"}, {"law m = ( 1 )", "+ - * / ;"},
+            {"law m = 1 +", units}, {"law m = 1 -", units}, {"law m = 1 *", units}, {"law m = 1 /", units}, {"law m = ( 1 /", units},
+            {"law m = 1 + 2", "+ - * / ;"}, {"law m = 1 - 2", "+ - * / ;"}, {"law m = 1 * 2", "+ - * / ;"}, {"law m = 1 / 2", "+ - * / ;"},
+            {"law m = if", units}, {"law m = if 1", "+ - * / <"}, {"law m = if ( 1", "+ - * / )"}, {"law m = if ( 1 )", "+ - * / <"},
+            {"law m = if 1 <", units}, {"law m = if 1 < 2", "+ - * / then"}, {"law m = if 1 < ( 2 )", "+ - * / then"},
+            {"law m = if 1 < 2 then", units}, {"law m = if 1 < 2 then 3", "+ - * / else"}, {"law m = if 1 < 2 then ( 3 )", "+ - * / else"},
+            {"law m = if 1 < 2 then 3 else", "if " + units}, {"law m = if 1 < 2 then 3 else 4", "+ - * / ;"},
+            {"law m = if 1 < 2 then 3 else if", units}, {"law m = if 1 < 2 then 3 else 4 ;", tells},
+        };
+        for (String[] row : table) {
+            nextTokens(row[0], List.of(row[1].split(" ")));
+        }
+        for (String var : new String[] {"last", "done", "steps", "minute", "stuff", "times", "0", "9999"}) {
+            nextTokens("law m = " + var, List.of("+", "-", "*", "/", ";"));
+            nextTokens("law m = if " + var, List.of("+", "-", "*", "/", "<"));
+        }
+    }
+
+    private static void nextTokens(String beginning, List<String> goOn) {
+        String all = String.join(" ", WORDS) + " n 1 ; = + - * / < ( ) . ? > , nnnnnnnnn 00001 A";
+        String text = beginning.isEmpty() ? "" : beginning + " ";
+        for (String token : all.split(" ")) {
+            if (!goOn.contains(token)) {
+                Check.fault(text + token, 1, text.length());
+                Check.fault(text + token + " ;", 1, text.length());
+            } else if (!token.equals(";")) {
+                Check.fault(text + token, 1, text.length() + token.length());
+                Check.fault(text + token + " ?", 1, text.length() + token.length() + 1);
+            } else {
+                // Whole in form: what is wrong with it now is a name or a number.
+                SleepWork x = new SleepWork();
+                Check.feed(x, text + token);
+                Check.due("a fault of form or space in " + text + token, x.read() == 1 || x.count(9) != 0, false);
             }
         }
     }
